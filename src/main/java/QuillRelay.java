@@ -506,24 +506,18 @@ public final class QuillRelay {
         before.copyFrom(race);
         program.rewind();
         for (int index = 0; index < program.commands; index++) {
-            if (!program.readNext() || !perform()) {
+            boolean read = program.readNext();
+            int first = at(program.arguments, 0);
+            int second = at(program.arguments, 1);
+            int third = at(program.arguments, 2);
+            if (!read || faultOf(program.verb, first, second, third) != Fault.NONE) {
                 race.copyFrom(before);
                 return index;
             }
+            apply(program.verb, first, second, third);
         }
         history.push(before);
         return NOTHING;
-    }
-
-    private boolean perform() {
-        int first = at(program.arguments, 0);
-        int second = at(program.arguments, 1);
-        int third = at(program.arguments, 2);
-        if (faultOf(program.verb, first, second, third) != Fault.NONE) {
-            return false;
-        }
-        apply(program.verb, first, second, third);
-        return true;
     }
 
     private Fault faultOf(Verb verb, int first, int second, int third) {
@@ -725,7 +719,7 @@ public final class QuillRelay {
 
         private void runOneSecond(int legLength) {
             int farthest = legEnd(legLength) + FARTHEST;
-            int reached = position + pace(speedOn(leg), secondsRun);
+            int reached = position + pace(at(speeds, leg), secondsRun);
             if (leg < FINAL_LEG && position >= farthest) {
                 return;
             }
@@ -753,7 +747,7 @@ public final class QuillRelay {
             int place = position;
             int seconds = 0;
             while (place < zoneBegin && seconds < MANY) {
-                place += pace(speedOn(leg), secondsRun + seconds);
+                place += pace(at(speeds, leg), secondsRun + seconds);
                 seconds++;
             }
             return standing + seconds;
@@ -1004,16 +998,10 @@ public final class QuillRelay {
             int finishing = 0;
             for (int second = 0; second < seconds; second++) {
                 secondsPassed++;
-                finishing += moveTeams();
-            }
-            return finishing;
-        }
-
-        private int moveTeams() {
-            int finishing = 0;
-            for (Team team : teams) {
-                if (team.stage == Stage.RUNNING && team.moveOneSecond(legLength, secondsPassed)) {
-                    finishing++;
+                for (Team team : teams) {
+                    if (team.stage == Stage.RUNNING && team.moveOneSecond(legLength, secondsPassed)) {
+                        finishing++;
+                    }
                 }
             }
             return finishing;
@@ -1191,8 +1179,10 @@ public final class QuillRelay {
         }
 
         private void addArgument(int value) {
-            put(arguments, argumentCount, value);
-            argumentCount++;
+            if (argumentCount >= 0 && argumentCount < arguments.length) {
+                arguments[argumentCount] = value;
+                argumentCount++;
+            }
         }
     }
 }

@@ -15,6 +15,7 @@ final class ModelTest {
         "standingOf", "penaltyOf", "splitSum", "timeOf", "resultOf", "rankOf", "secondsToZone", "writeBanner",
         "teamInLane", "teamAtRank"};
     private static final String[] QUESTIONS_OF_LEG = {"speedOf", "splitOf", "hasFoul"};
+    private static final int[] EXTREMES = {Integer.MIN_VALUE, Integer.MAX_VALUE, Integer.MIN_VALUE + 1, -1000000, 1 << 30};
     private static final String[] WORDS = {"start", "run ", "pass ", "drop ", "quit ", "protest ", "speed ", "draw ",
         ";", " ", "l", "d", "0", "1", "16", "200", "2", "x", "st", "pr"};
 
@@ -191,12 +192,20 @@ final class ModelTest {
             return;
         }
         calls++;
+        makeExtreme(arguments, name.equals("type") ? 0 : pick(100));
         told.append(name).append(java.util.Arrays.toString(arguments));
         String due = plain.answer(name, arguments);
         String answer = invoke(name, arguments);
         told.append(" = ").append(answer).append('\n');
         if (!due.equals(answer)) {
             throw new AssertionError(told + "due is " + due);
+        }
+    }
+
+    /** Now and then an argument is as far out of range as it can be. */
+    private void makeExtreme(int[] arguments, int lot) {
+        if (lot == 1 && arguments.length > 0) {
+            arguments[pick(arguments.length)] = EXTREMES[pick(EXTREMES.length)];
         }
     }
 

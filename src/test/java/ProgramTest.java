@@ -54,6 +54,14 @@ final class ProgramTest {
         Check.same(0, relay.penaltyOf(0));
     }
 
+    static void promise43KindsOfProtest() {
+        QuillRelay relay = Races.startedShort(2);
+        Check.same(3, Races.execute(relay, "run 6;drop 1 1;run 200"));
+        Check.same(3, Races.execute(relay, "pass 1;protest 01d;protest 01l"));
+        Check.same(20, relay.penaltyOf(1));
+        Check.same(0, relay.penaltyOf(0));
+    }
+
     static void promise43SixtyCharacters() {
         QuillRelay relay = Races.started(1);
         Check.same(60, SIXTY.length());

@@ -53,6 +53,15 @@ final class UndoTest {
         Check.same(659, tired.positionOf(0));
     }
 
+    static void promise46UndonePassDoesNotCountForTheNextOne() {
+        QuillRelay relay = Races.startedShort(1);
+        relay.run(6);
+        relay.pass(0);
+        relay.undo();
+        relay.run(1);
+        Check.same(7, relay.pass(0));
+    }
+
     static void promise46ProgramIsOneModification() {
         QuillRelay relay = Races.prepared(2);
         checkUndone(relay, () -> Races.execute(relay, "draw 2;start;run 16;pass 0;quit 1"));
@@ -203,6 +212,20 @@ final class UndoTest {
             Check.same(8, relay.restore());
             Check.same(state, Races.state(relay));
         }
+    }
+
+    static void promise48RestoreBringsBackTheTimes() {
+        QuillRelay relay = Races.startedShort(1);
+        Races.runToLastLeg(relay);
+        relay.run(10);
+        relay.save();
+        relay.undo();
+        relay.drop(0, 5);
+        relay.run(20);
+        Check.same(37, relay.timeOf(0));
+        Check.same(32, relay.restore());
+        Check.same(32, relay.timeOf(0));
+        Check.same(10, relay.splitOf(0, 3));
     }
 
     static void promise48AfterwardsNothingCanBeUndone() {
