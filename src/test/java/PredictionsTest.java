@@ -96,6 +96,14 @@ final class PredictionsTest {
         Check.same(0, relay.secondsToZone(0));
     }
 
+    static void promise37NothingIsWaitedForAtTheBeginningOfTheZone() {
+        QuillRelay relay = Races.startedShort(1);
+        relay.run(6);
+        Check.same(300, relay.positionOf(0));
+        relay.drop(0, 5);
+        Check.same(0, relay.secondsToZone(0));
+    }
+
     static void promise37SecondsToZoneOfTheSlowestRunner() {
         QuillRelay relay = Races.prepared(1);
         relay.setLength(4000);
