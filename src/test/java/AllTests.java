@@ -9,7 +9,9 @@ import java.util.regex.Pattern;
 public final class AllTests {
     private static final Class<?>[] CLASSES = {
         FaceTest.class, PreparingTest.class, RacingTest.class, RaceQuestionsTest.class, TeamQuestionsTest.class,
-        PredictionsTest.class, BannerTest.class, ProgramTest.class, UndoTest.class, ModelTest.class
+        PredictionsTest.class, BannerTest.class, ProgramTest.class, UndoTest.class, ModelTest.class,
+        PreparingEdgesTest.class, RacingEdgesTest.class, QuestionEdgesTest.class, PredictionEdgesTest.class,
+        BannerEdgesTest.class, ProgramEdgesTest.class, UndoEdgesTest.class
     };
     private static final int PROMISES = 48;
     private static final Pattern NAME = Pattern.compile("promise(\\d+)[A-Z].*");

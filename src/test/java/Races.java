@@ -41,6 +41,23 @@ final class Races {
         }
     }
 
+    /** A started race of team 0 alone: each runner but the last one of the rows runs so many seconds at its speed and passes. */
+    static QuillRelay ranBy(int length, int[]... speedsAndSeconds) {
+        QuillRelay relay = prepared(1);
+        relay.setLength(length);
+        for (int leg = 0; leg < speedsAndSeconds.length; leg++) {
+            relay.setSpeed(0, leg, speedsAndSeconds[leg][0]);
+        }
+        relay.start();
+        for (int leg = 0; leg < speedsAndSeconds.length; leg++) {
+            if (leg > 0) {
+                relay.pass(0);
+            }
+            relay.run(speedsAndSeconds[leg][1]);
+        }
+        return relay;
+    }
+
     /** Brings all teams of a short race to the last leg, at 1100 decimetres, at the clock 22. */
     static void runToLastLeg(QuillRelay relay) {
         int[] seconds = {6, 8, 8};
@@ -92,6 +109,18 @@ final class Races {
                 .append(relay.clock()).append(' ').append(relay.length());
         for (int team = 0; team < relay.teamCount(); team++) {
             text.append('\n').append(stateOfTeam(relay, team));
+        }
+        return text.toString();
+    }
+
+    /** A part of the state that takes so few calls that it can be asked for after each of nine. */
+    static String shortState(QuillRelay relay) {
+        StringBuilder text = new StringBuilder();
+        text.append(relay.isStarted()).append(' ').append(relay.clock()).append(' ').append(relay.length());
+        for (int team = 0; team < relay.teamCount(); team++) {
+            text.append(' ').append(relay.laneOf(team)).append(' ').append(relay.speedOf(team, 3))
+                    .append(' ').append(relay.positionOf(team)).append(' ').append(relay.standingOf(team))
+                    .append(' ').append(relay.penaltyOf(team)).append(' ').append(relay.isRunning(team));
         }
         return text.toString();
     }
