@@ -1,7 +1,5 @@
 /** The boundary cases that the document names for promises 40 and 41. */
 final class BannerEdgesTest {
-    private static final int[] EXTREMES = {Integer.MIN_VALUE, Integer.MIN_VALUE + 1, -1000, Integer.MAX_VALUE};
-
     private BannerEdgesTest() {
     }
 
@@ -14,7 +12,7 @@ final class BannerEdgesTest {
         Check.same("L1 - 0", Races.banner(six, 0));
         Check.same("L6 - 0", Races.banner(six, 5));
         Check.fails(Refused.INDEX, () -> six.writeBanner(6));
-        for (int wrong : EXTREMES) {
+        for (int wrong : Refused.EXTREMES) {
             Check.fails(Refused.INDEX, () -> six.writeBanner(wrong));
         }
     }
@@ -95,7 +93,7 @@ final class BannerEdgesTest {
         Check.same('L', relay.bannerAt(0));
         Check.same('1', relay.bannerAt(1));
         Check.same('0', relay.bannerAt(5));
-        for (int wrong : EXTREMES) {
+        for (int wrong : Refused.EXTREMES) {
             Check.fails(Refused.INDEX, () -> relay.bannerAt(wrong));
         }
     }

@@ -40,21 +40,6 @@ final class BannerTest {
         Check.same("L2 w 120+10", Races.banner(relay, 1));
     }
 
-    static void promise40Refusals() {
-        QuillRelay relay = Races.prepared(1);
-        int length = relay.writeBanner(0);
-        for (int wrong : new int[] {-1, 1, 6, Integer.MAX_VALUE, Integer.MIN_VALUE}) {
-            Check.fails(IndexOutOfBoundsException.class, () -> relay.writeBanner(wrong));
-        }
-        Check.same("L1 - 0", Races.bannerOfLength(relay, length));
-    }
-
-    static void promise41BannerIsEmptyAtFirst() {
-        QuillRelay relay = Races.prepared(1);
-        Check.fails(IndexOutOfBoundsException.class, () -> relay.bannerAt(0));
-        Check.fails(IndexOutOfBoundsException.class, () -> relay.bannerAt(-1));
-    }
-
     static void promise41BannerAt() {
         QuillRelay relay = Races.prepared(1);
         relay.writeBanner(0);

@@ -1,6 +1,5 @@
 /** The boundary cases that the document names for promises 35 to 39. */
 final class PredictionEdgesTest {
-    private static final int[] EXTREMES = {Integer.MIN_VALUE, Integer.MIN_VALUE + 1, -1000, Integer.MAX_VALUE};
     /** Speed, seconds and decimetres: the edges of the stretches, and where the pace comes to its least. */
     private static final int[][] DISTANCES = {{20, 0, 0}, {20, 1, 20}, {20, 10, 200}, {20, 11, 219}, {20, 99, 1539},
         {20, 100, 1550}, {20, 101, 1560}, {20, 110, 1650}, {20, 111, 1660}, {20, 999, 10540}, {60, 9, 540}, {60, 10, 600},
@@ -31,7 +30,7 @@ final class PredictionEdgesTest {
         Check.same(300, reach.of(six, 0, 0, 5));
         Check.same(300, reach.of(six, 5, 0, 5));
         Check.fails(Refused.INDEX, () -> reach.of(six, 6, 0, 5));
-        for (int wrong : EXTREMES) {
+        for (int wrong : Refused.EXTREMES) {
             Check.fails(Refused.INDEX, () -> reach.of(six, wrong, 0, 5));
         }
     }
@@ -42,7 +41,7 @@ final class PredictionEdgesTest {
         QuillRelay relay = Races.prepared(1);
         Check.same(300, reach.of(relay, 0, 0, 5));
         Check.same(300, reach.of(relay, 0, 3, 5));
-        for (int wrong : EXTREMES) {
+        for (int wrong : Refused.EXTREMES) {
             Check.fails(Refused.INDEX, () -> reach.of(relay, 0, wrong, 5));
         }
     }
@@ -54,7 +53,7 @@ final class PredictionEdgesTest {
         QuillRelay relay = Races.prepared(1);
         Check.same(0, reach.of(relay, 0, 0, 0));
         Check.same(22740, reach.of(relay, 0, 0, 999));
-        for (int wrong : EXTREMES) {
+        for (int wrong : Refused.EXTREMES) {
             Check.fails(Refused.ARGUMENT, () -> reach.of(relay, 0, 0, wrong));
         }
     }
@@ -134,7 +133,7 @@ final class PredictionEdgesTest {
         Check.same(6, six.secondsToZone(0));
         Check.same(6, six.secondsToZone(5));
         Check.fails(Refused.INDEX, () -> six.secondsToZone(6));
-        for (int wrong : EXTREMES) {
+        for (int wrong : Refused.EXTREMES) {
             Check.fails(Refused.INDEX, () -> six.secondsToZone(wrong));
         }
     }

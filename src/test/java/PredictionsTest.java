@@ -20,17 +20,6 @@ final class PredictionsTest {
         Check.same(50040, reach.of(1, 3, 999));
     }
 
-    private static void checkReachRefusals(Reach reach) {
-        int[][] wrongIndexes = {{-1, 0}, {2, 0}, {6, 0}, {0, -1}, {0, 4}, {Integer.MIN_VALUE, 0}};
-        for (int[] wrong : wrongIndexes) {
-            Check.fails(IndexOutOfBoundsException.class, () -> reach.of(wrong[0], wrong[1], 5));
-            Check.fails(IndexOutOfBoundsException.class, () -> reach.of(wrong[0], wrong[1], 1000));
-        }
-        for (int wrong : new int[] {-1, 1000, Integer.MAX_VALUE, Integer.MIN_VALUE}) {
-            Check.fails(IllegalArgumentException.class, () -> reach.of(0, 0, wrong));
-        }
-    }
-
     private static QuillRelay withSlowAndFastRunner() {
         QuillRelay relay = Races.prepared(2);
         relay.setSpeed(1, 0, 20);
@@ -41,7 +30,6 @@ final class PredictionsTest {
     static void promise35Reach() {
         QuillRelay relay = withSlowAndFastRunner();
         checkReach(relay::reach);
-        checkReachRefusals(relay::reach);
         relay.start();
         relay.run(30);
         relay.drop(0, 5);
@@ -51,7 +39,6 @@ final class PredictionsTest {
     static void promise36ReachByStretches() {
         QuillRelay relay = withSlowAndFastRunner();
         checkReach(relay::reachByStretches);
-        checkReachRefusals(relay::reachByStretches);
         relay.start();
         relay.run(30);
         relay.drop(0, 5);
@@ -96,14 +83,6 @@ final class PredictionsTest {
         Check.same(0, relay.secondsToZone(0));
     }
 
-    static void promise37NothingIsWaitedForAtTheBeginningOfTheZone() {
-        QuillRelay relay = Races.startedShort(1);
-        relay.run(6);
-        Check.same(300, relay.positionOf(0));
-        relay.drop(0, 5);
-        Check.same(0, relay.secondsToZone(0));
-    }
-
     static void promise37SecondsToZoneOfTheSlowestRunner() {
         QuillRelay relay = Races.prepared(1);
         relay.setLength(4000);
@@ -111,21 +90,6 @@ final class PredictionsTest {
         relay.start();
         // 1550 in the first 100 seconds, then 10 in each
         Check.same(335, relay.secondsToZone(0));
-    }
-
-    static void promise37Refusals() {
-        QuillRelay relay = Races.preparedShort(1);
-        Check.fails(IllegalStateException.class, () -> relay.secondsToZone(0));
-        Check.fails(IndexOutOfBoundsException.class, () -> relay.secondsToZone(1));
-        relay.start();
-        Check.fails(IndexOutOfBoundsException.class, () -> relay.secondsToZone(-1));
-        Races.runToLastLeg(relay);
-        Check.fails(UnsupportedOperationException.class, () -> relay.secondsToZone(0));
-        relay.run(10);
-        Check.fails(IllegalStateException.class, () -> relay.secondsToZone(0));
-        QuillRelay withdrawn = Races.started(1);
-        withdrawn.withdraw(0);
-        Check.fails(IllegalStateException.class, () -> withdrawn.secondsToZone(0));
     }
 
     static void promise38RefusalReason() {

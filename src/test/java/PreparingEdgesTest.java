@@ -1,7 +1,5 @@
 /** The boundary cases that the document names for promises 1 to 6. */
 final class PreparingEdgesTest {
-    private static final int[] EXTREMES = {Integer.MIN_VALUE, Integer.MIN_VALUE + 1, -1000, Integer.MAX_VALUE};
-
     private PreparingEdgesTest() {
     }
 
@@ -73,7 +71,7 @@ final class PreparingEdgesTest {
         QuillRelay relay = Races.prepared(6);
         Check.same(60, relay.setSpeed(0, 0, 50));
         Check.same(60, relay.setSpeed(5, 0, 50));
-        for (int wrong : EXTREMES) {
+        for (int wrong : Refused.EXTREMES) {
             Check.fails(Refused.INDEX, () -> relay.setSpeed(wrong, 0, 50));
         }
     }
@@ -85,7 +83,7 @@ final class PreparingEdgesTest {
         QuillRelay relay = Races.prepared(2);
         Check.same(60, relay.setSpeed(1, 0, 70));
         Check.same(60, relay.setSpeed(1, 3, 70));
-        for (int wrong : EXTREMES) {
+        for (int wrong : Refused.EXTREMES) {
             Check.fails(Refused.INDEX, () -> relay.setSpeed(0, wrong, 50));
         }
     }
@@ -98,7 +96,7 @@ final class PreparingEdgesTest {
         Check.same(60, relay.setSpeed(0, 0, 20));
         Check.same(20, relay.setSpeed(0, 0, 99));
         Check.same(99, relay.speedOf(0, 0));
-        for (int wrong : EXTREMES) {
+        for (int wrong : Refused.EXTREMES) {
             Check.fails(Refused.ARGUMENT, () -> relay.setSpeed(0, 0, wrong));
         }
     }
@@ -127,7 +125,7 @@ final class PreparingEdgesTest {
         Check.same(1000, relay.setLength(400));
         Check.same(400, relay.setLength(4000));
         Check.same(4000, relay.length());
-        for (int wrong : EXTREMES) {
+        for (int wrong : Refused.EXTREMES) {
             Check.fails(Refused.ARGUMENT, () -> relay.setLength(wrong));
         }
     }
@@ -149,7 +147,7 @@ final class PreparingEdgesTest {
         Check.same("1 2 3", lanes(3, 0));
         Check.same("3 2 1", lanes(3, 999));
         QuillRelay relay = Races.prepared(2);
-        for (int wrong : EXTREMES) {
+        for (int wrong : Refused.EXTREMES) {
             Check.fails(Refused.ARGUMENT, () -> relay.drawLanes(wrong));
         }
     }

@@ -35,22 +35,6 @@ final class PreparingTest {
                 + "2 0 0 false 0 0 false false 1 0 60/- 60/- 60/- 60/- -", Races.state(relay));
     }
 
-    static void promise2OnlyWhilePrepared() {
-        QuillRelay relay = Races.started(1);
-        Check.fails(IllegalStateException.class, () -> relay.addTeam());
-        relay.withdraw(0);
-        Check.fails(IllegalStateException.class, () -> relay.addTeam());
-        Check.same(1, relay.teamCount());
-    }
-
-    static void promise2TeamAddedAfterTheDrawHasItsNumberPlusOne() {
-        QuillRelay relay = Races.prepared(3);
-        relay.drawLanes(7);
-        relay.addTeam();
-        Check.same(4, relay.laneOf(3));
-        Check.same(3, relay.laneOf(0));
-    }
-
     static void promise2UndoneTeamComesBackFresh() {
         QuillRelay relay = Races.prepared(1);
         relay.addTeam();
@@ -80,41 +64,6 @@ final class PreparingTest {
         }
     }
 
-    static void promise3Refusals() {
-        QuillRelay relay = Races.prepared(1);
-        int[][] wrongIndexes = {{-1, 0}, {1, 0}, {6, 0}, {0, -1}, {0, 4}, {Integer.MAX_VALUE, 0}, {0, Integer.MIN_VALUE}};
-        for (int[] wrong : wrongIndexes) {
-            Check.fails(IndexOutOfBoundsException.class, () -> relay.setSpeed(wrong[0], wrong[1], 50));
-            Check.fails(IndexOutOfBoundsException.class, () -> relay.setSpeed(wrong[0], wrong[1], 19));
-        }
-        for (int wrong : new int[] {19, 100, 0, -60, Integer.MAX_VALUE}) {
-            Check.fails(IllegalArgumentException.class, () -> relay.setSpeed(0, 0, wrong));
-        }
-        relay.start();
-        Check.fails(IllegalStateException.class, () -> relay.setSpeed(0, 0, 50));
-        Check.fails(IllegalArgumentException.class, () -> relay.setSpeed(0, 0, 100));
-        Check.fails(IndexOutOfBoundsException.class, () -> relay.setSpeed(1, 0, 100));
-        Check.same(60, relay.speedOf(0, 0));
-    }
-
-    static void promise4LengthIsSetAndThePreviousOneReturned() {
-        QuillRelay relay = new QuillRelay();
-        Check.same(1000, relay.setLength(400));
-        Check.same(400, relay.setLength(4000));
-        Check.same(4000, relay.length());
-    }
-
-    static void promise4Refusals() {
-        QuillRelay relay = Races.prepared(1);
-        for (int wrong : new int[] {399, 4001, 0, -1000, Integer.MAX_VALUE, Integer.MIN_VALUE}) {
-            Check.fails(IllegalArgumentException.class, () -> relay.setLength(wrong));
-        }
-        relay.start();
-        Check.fails(IllegalStateException.class, () -> relay.setLength(500));
-        Check.fails(IllegalArgumentException.class, () -> relay.setLength(399));
-        Check.same(1000, relay.length());
-    }
-
     static void promise5LanesAreDrawn() {
         QuillRelay relay = Races.prepared(3);
         Check.same(3, relay.drawLanes(7));
@@ -139,35 +88,11 @@ final class PreparingTest {
         return text.toString();
     }
 
-    static void promise5Refusals() {
-        QuillRelay relay = new QuillRelay();
-        Check.fails(IllegalStateException.class, () -> relay.drawLanes(0));
-        Check.fails(IllegalArgumentException.class, () -> relay.drawLanes(-1));
-        Check.fails(IllegalArgumentException.class, () -> relay.drawLanes(1000));
-        relay.addTeam();
-        Check.fails(IllegalArgumentException.class, () -> relay.drawLanes(1000));
-        relay.start();
-        Check.fails(IllegalStateException.class, () -> relay.drawLanes(0));
-        Check.fails(IllegalArgumentException.class, () -> relay.drawLanes(-1));
-    }
-
     static void promise6StartReturnsTheTeamsAndAllRun() {
         QuillRelay relay = Races.prepared(3);
         Check.same(3, relay.start());
         Check.same(true, relay.isStarted());
         Check.same(3, relay.runningCount());
         Check.same(6, Races.prepared(6).start());
-    }
-
-    static void promise6Refusals() {
-        QuillRelay relay = new QuillRelay();
-        Check.fails(IllegalStateException.class, () -> relay.start());
-        Check.same(false, relay.isStarted());
-        relay.addTeam();
-        relay.start();
-        Check.fails(IllegalStateException.class, () -> relay.start());
-        relay.withdraw(0);
-        Check.fails(IllegalStateException.class, () -> relay.start());
-        Check.same(0, relay.runningCount());
     }
 }

@@ -190,6 +190,40 @@ final class ProgramEdgesTest {
         Check.fails(Refused.STATE, () -> Races.execute(empty, "draw 0"));
     }
 
+    /** "protest with the protesting team, the other team and LATE or DROP" */
+    static void promise43TeamsAndKindsOfAProtest() {
+        Object[][] programAndPenalties = {{"protest 02l", "5 10 10"}, {"protest 01d", "5 20 0"}, {"protest 02d", "10 10 0"},
+            {"protest 01l", "10 10 0"}, {"protest 20l", "5 10 5"}, {"protest 10d", "5 15 0"},
+            {"protest 02l;protest 01d", "5 20 10"}, {"protest 01d;protest 02l", "5 20 10"}};
+        for (Object[] row : programAndPenalties) {
+            QuillRelay relay = emptied(Worn::started).get();
+            Races.execute(relay, (String) row[0]);
+            String penalties = relay.penaltyOf(0) + " " + relay.penaltyOf(1) + " " + relay.penaltyOf(2);
+            Check.same((String) row[0], row[1], penalties);
+        }
+    }
+
+    /** "quit" calls withdraw: the team has not finished, and it keeps its place. */
+    static void promise43QuitWithdraws() {
+        QuillRelay relay = Races.started(2);
+        Check.same(2, Races.execute(relay, "run 1;quit 1"));
+        Check.same("L2 w 60", Races.banner(relay, 1));
+        Check.fails(Refused.NO_ELEMENT, () -> relay.timeOf(1));
+        Check.same(1, relay.rankOf(1));
+        Check.same("L1 r0 60", Races.banner(relay, 0));
+    }
+
+    /** "draw" with the seed: the lanes are those that drawLanes gives, also with zeros in front. */
+    static void promise43DrawDrawsLanes() {
+        for (String number : new String[] {"199", "7", "007"}) {
+            QuillRelay commanded = Races.prepared(6);
+            Races.execute(commanded, "draw " + number);
+            QuillRelay called = Races.prepared(6);
+            called.drawLanes(Integer.parseInt(number));
+            Check.same(Races.state(called), Races.state(commanded));
+        }
+    }
+
     /** A command sees what the commands before it have done, and is judged by that alone. */
     static void promise43CommandsSeeTheOnesBeforeThem() {
         QuillRelay relay = Races.preparedShort(2);

@@ -7,23 +7,6 @@ final class ProgramTest {
     private ProgramTest() {
     }
 
-    static void promise42TypeReturnsTheNumberOfCharacters() {
-        QuillRelay relay = new QuillRelay();
-        for (int count = 1; count <= 60; count++) {
-            Check.same(count, relay.type((char) (count % 2 == 0 ? 32 : 126)));
-        }
-        Check.fails(IllegalStateException.class, () -> relay.type('a'));
-        Check.fails(IllegalArgumentException.class, () -> relay.type((char) 127));
-    }
-
-    static void promise42Refusals() {
-        QuillRelay relay = new QuillRelay();
-        for (char wrong : new char[] {0, 10, 31, 127, 228, 65535}) {
-            Check.fails(IllegalArgumentException.class, () -> relay.type(wrong));
-        }
-        Check.same(1, relay.type('x'));
-    }
-
     static void promise43EachCommandCallsItsMethod() {
         QuillRelay relay = Races.prepared(3);
         Check.same(1, Races.execute(relay, "draw 7"));
@@ -62,13 +45,6 @@ final class ProgramTest {
         Check.same(0, relay.penaltyOf(0));
     }
 
-    static void promise43SixtyCharacters() {
-        QuillRelay relay = Races.started(1);
-        Check.same(60, SIXTY.length());
-        Check.same(10, Races.execute(relay, SIXTY));
-        Check.same(10, relay.clock());
-    }
-
     static void promise43BufferIsEmptiedEachTime() {
         QuillRelay relay = Races.started(1);
         Races.execute(relay, "run 1");
@@ -96,22 +72,6 @@ final class ProgramTest {
         Races.type(relay, program);
         Check.fails(IllegalStateException.class, () -> relay.execute());
         Check.same(command, relay.failedCommand());
-    }
-
-    static void promise43EveryExceptionOfACommandIsAFailure() {
-        QuillRelay prepared = Races.prepared(1);
-        for (String program : new String[] {"run 1", "pass 0", "drop 0 1", "quit 0", "speed 0 4 50", "speed 0 0 100"}) {
-            fails(prepared, program, 0);
-        }
-        fails(new QuillRelay(), "start", 0);
-        fails(new QuillRelay(), "draw 0", 0);
-        QuillRelay relay = Races.started(2);
-        String[] programs = {"run 201", "run 0", "pass 2", "drop 0 0", "drop 0 21", "drop 9 1", "quit 2", "protest 00l",
-            "protest 02d", "speed 0 0 50", "draw 1", "start", "pass 0"};
-        for (String program : programs) {
-            fails(relay, program, 0);
-        }
-        Check.same(0, relay.clock());
     }
 
     static void promise43RefusedPassIsStored() {

@@ -2,8 +2,6 @@ import java.util.function.BiFunction;
 
 /** The boundary cases that the document names for promises 12 to 34. */
 final class QuestionEdgesTest {
-    private static final int[] EXTREMES = {Integer.MIN_VALUE, Integer.MIN_VALUE + 1, -1000, Integer.MAX_VALUE};
-
     private QuestionEdgesTest() {
     }
 
@@ -21,7 +19,7 @@ final class QuestionEdgesTest {
         accepts(question, full, 0, 5);
         Check.fails(Refused.INDEX, () -> question.apply(full, -1));
         Check.fails(Refused.INDEX, () -> question.apply(full, 6));
-        for (int wrong : EXTREMES) {
+        for (int wrong : Refused.EXTREMES) {
             Check.fails(Refused.INDEX, () -> question.apply(full, wrong));
         }
     }
@@ -32,7 +30,7 @@ final class QuestionEdgesTest {
         Refused.with(Refused.INDEX, Worn::finished, relay -> question.apply(relay, 4));
         QuillRelay relay = Worn.started();
         accepts(question, relay, 0, 3);
-        for (int wrong : EXTREMES) {
+        for (int wrong : Refused.EXTREMES) {
             Check.fails(Refused.INDEX, () -> question.apply(relay, wrong));
         }
     }
@@ -157,7 +155,7 @@ final class QuestionEdgesTest {
         Check.same(5, six.teamInLane(6));
         Check.fails(Refused.NO_ELEMENT, () -> six.teamInLane(0));
         Check.fails(Refused.NO_ELEMENT, () -> six.teamInLane(7));
-        for (int wrong : EXTREMES) {
+        for (int wrong : Refused.EXTREMES) {
             Check.fails(Refused.NO_ELEMENT, () -> six.teamInLane(wrong));
         }
     }
@@ -295,7 +293,7 @@ final class QuestionEdgesTest {
         Check.same(false, relay.hasFoul(2, 1));
         Check.same(true, relay.hasFoul(1, 1));
         Check.same(false, relay.hasFoul(1, 0));
-        for (int wrong : EXTREMES) {
+        for (int wrong : Refused.EXTREMES) {
             Check.fails(Refused.ARGUMENT, () -> relay.hasFoul(0, wrong));
         }
     }
@@ -440,7 +438,7 @@ final class QuestionEdgesTest {
         Check.same(5, six.teamAtRank(5));
         Check.fails(Refused.NO_ELEMENT, () -> six.teamAtRank(-1));
         Check.fails(Refused.NO_ELEMENT, () -> six.teamAtRank(6));
-        for (int wrong : EXTREMES) {
+        for (int wrong : Refused.EXTREMES) {
             Check.fails(Refused.NO_ELEMENT, () -> six.teamAtRank(wrong));
         }
     }
@@ -502,6 +500,21 @@ final class QuestionEdgesTest {
         relay.withdraw(2);
         Check.same(0, relay.rankOf(1));
         Check.same(1, relay.rankOf(2));
+    }
+
+    /** "first those that have finished": also one with a great penalty, ahead of one that is a step before the finish. */
+    static void promise33FinishedTeamIsAheadOfRunningOnes() {
+        QuillRelay relay = onLastLegFor(8);
+        relay.drop(0, 20);
+        relay.run(2);
+        for (int protests = 0; protests < 20; protests++) {
+            relay.protest(1, 0, QuillRelay.LATE);
+        }
+        Check.same(132, relay.resultOf(1));
+        Check.same(0, relay.rankOf(1));
+        Check.same(1, relay.rankOf(0));
+        Check.same(1, relay.teamAtRank(0));
+        Check.same(0, relay.teamAtRank(1));
     }
 
     /** A running team that has not moved is ahead of a withdrawn one that is far. */

@@ -1,7 +1,5 @@
 /** The boundary cases that the document names for promises 7 to 11, with the terms that belong to them. */
 final class RacingEdgesTest {
-    private static final int[] EXTREMES = {Integer.MIN_VALUE, Integer.MIN_VALUE + 1, -1000, Integer.MAX_VALUE};
-
     private RacingEdgesTest() {
     }
 
@@ -16,7 +14,7 @@ final class RacingEdgesTest {
         Check.same(1, relay.clock());
         relay.run(200);
         Check.same(201, relay.clock());
-        for (int wrong : EXTREMES) {
+        for (int wrong : Refused.EXTREMES) {
             Check.fails(Refused.ARGUMENT, () -> relay.run(wrong));
         }
     }
@@ -104,6 +102,16 @@ final class RacingEdgesTest {
         Check.same(true, second.isRunning(0));
     }
 
+    /** A team that only stands, for a dropped quill or behind the leg, does not finish. */
+    static void promise7StandingTeamsDoNotFinish() {
+        QuillRelay relay = Races.started(2);
+        relay.run(30);
+        relay.drop(0, 20);
+        Check.same(0, relay.run(1));
+        Check.same(0, relay.run(30));
+        Check.same(2, relay.runningCount());
+    }
+
     /** "finishes when its position is at least 4 times the length", with 2000 but not with 1999 */
     static void promise7FinishAtFourTimesTheLength() {
         int[] pace = {50, 10};
@@ -167,7 +175,7 @@ final class RacingEdgesTest {
         relay.run(6);
         Check.same(6, relay.pass(0));
         Check.same(6, relay.pass(5));
-        for (int wrong : EXTREMES) {
+        for (int wrong : Refused.EXTREMES) {
             Check.fails(Refused.INDEX, () -> relay.pass(wrong));
         }
     }
@@ -327,7 +335,7 @@ final class RacingEdgesTest {
         Check.fails(Refused.INDEX, () -> relay.drop(6, 5));
         Check.same(5, relay.drop(0, 5));
         Check.same(6, relay.drop(5, 6));
-        for (int wrong : EXTREMES) {
+        for (int wrong : Refused.EXTREMES) {
             Check.fails(Refused.INDEX, () -> relay.drop(wrong, 5));
         }
     }
@@ -339,7 +347,7 @@ final class RacingEdgesTest {
         QuillRelay relay = Races.started(2);
         Check.same(1, relay.drop(0, 1));
         Check.same(20, relay.drop(1, 20));
-        for (int wrong : EXTREMES) {
+        for (int wrong : Refused.EXTREMES) {
             Check.fails(Refused.ARGUMENT, () -> relay.drop(0, wrong));
         }
     }
@@ -429,7 +437,7 @@ final class RacingEdgesTest {
         Check.fails(Refused.INDEX, () -> relay.withdraw(6));
         Check.same(5, relay.withdraw(5));
         Check.same(4, relay.withdraw(0));
-        for (int wrong : EXTREMES) {
+        for (int wrong : Refused.EXTREMES) {
             Check.fails(Refused.INDEX, () -> relay.withdraw(wrong));
         }
     }
@@ -478,7 +486,7 @@ final class RacingEdgesTest {
         Check.fails(Refused.INDEX, () -> relay.protest(0, 6, QuillRelay.LATE));
         Check.same(false, relay.protest(0, 5, QuillRelay.LATE));
         Check.same(false, relay.protest(5, 0, QuillRelay.LATE));
-        for (int wrong : EXTREMES) {
+        for (int wrong : Refused.EXTREMES) {
             Check.fails(Refused.INDEX, () -> relay.protest(wrong, 0, QuillRelay.LATE));
             Check.fails(Refused.INDEX, () -> relay.protest(0, wrong, QuillRelay.LATE));
         }
@@ -497,7 +505,7 @@ final class RacingEdgesTest {
         QuillRelay relay = Worn.started();
         Check.same(true, relay.protest(0, 2, 0));
         Check.same(true, relay.protest(0, 1, 1));
-        for (int wrong : EXTREMES) {
+        for (int wrong : Refused.EXTREMES) {
             Check.fails(Refused.ARGUMENT, () -> relay.protest(0, 1, wrong));
         }
     }
@@ -527,6 +535,34 @@ final class RacingEdgesTest {
         Refused.with(Refused.ARGUMENT, Worn::prepared, relay -> relay.protest(0, 0, QuillRelay.LATE));
         Refused.with(Refused.ARGUMENT, Worn::prepared, relay -> relay.protest(0, 1, 2));
         Refused.with(Refused.ARGUMENT, Worn::prepared, relay -> relay.protest(0, 1, -1));
+    }
+
+    /** "the foul is removed", the one of that kind and of that team only */
+    static void promise11OnlyThatFoulIsRemoved() {
+        for (int kind = 0; kind <= 1; kind++) {
+            QuillRelay relay = Races.startedShort(3);
+            relay.run(6);
+            relay.drop(0, 1);
+            relay.drop(1, 1);
+            relay.run(200);
+            relay.pass(0);
+            relay.pass(1);
+            Check.same(true, relay.protest(2, 0, kind));
+            Check.same(false, relay.hasFoul(0, kind));
+            Check.same(true, relay.hasFoul(0, 1 - kind));
+            Check.same(true, relay.hasFoul(1, QuillRelay.LATE));
+            Check.same(true, relay.hasFoul(1, QuillRelay.DROP));
+        }
+    }
+
+    /** "Otherwise it is rejected": no foul comes or goes by it. */
+    static void promise11RejectedProtestLeavesTheFouls() {
+        QuillRelay relay = Worn.started();
+        Check.same(false, relay.protest(1, 2, QuillRelay.DROP));
+        Check.same(true, relay.hasFoul(1, QuillRelay.DROP));
+        Check.same(false, relay.hasFoul(1, QuillRelay.LATE));
+        Check.same(true, relay.hasFoul(2, QuillRelay.LATE));
+        Check.same(false, relay.hasFoul(2, QuillRelay.DROP));
     }
 
     /** "the penalty of that team increases by 10 seconds", "the penalty of the protesting team increases by 5 seconds" */

@@ -3,30 +3,6 @@ final class RacingTest {
     private RacingTest() {
     }
 
-    static void promise7RunnersTireEveryTenSeconds() {
-        QuillRelay relay = Races.prepared(1);
-        relay.setLength(4000);
-        relay.start();
-        int[][] due = {{1, 60}, {9, 600}, {1, 659}, {9, 1190}, {1, 1248}};
-        for (int[] step : due) {
-            relay.run(step[0]);
-            Check.same(step[1], relay.positionOf(0));
-        }
-    }
-
-    static void promise7RunnersCoverAtLeastTenDecimetres() {
-        QuillRelay relay = Races.prepared(1);
-        relay.setLength(4000);
-        relay.setSpeed(0, 0, 20);
-        relay.start();
-        relay.run(100);
-        Check.same(1550, relay.positionOf(0));
-        relay.run(10);
-        Check.same(1650, relay.positionOf(0));
-        relay.run(10);
-        Check.same(1750, relay.positionOf(0));
-    }
-
     static void promise7RunnerStandsBehindTheLeg() {
         QuillRelay relay = Races.started(1);
         relay.run(21);
@@ -93,21 +69,6 @@ final class RacingTest {
         Check.same(360, withdrawn.positionOf(1));
     }
 
-    static void promise7Refusals() {
-        QuillRelay relay = Races.prepared(1);
-        for (int wrong : new int[] {0, 201, -1, Integer.MAX_VALUE, Integer.MIN_VALUE}) {
-            Check.fails(IllegalArgumentException.class, () -> relay.run(wrong));
-        }
-        Check.fails(IllegalStateException.class, () -> relay.run(1));
-        relay.start();
-        Check.fails(IllegalArgumentException.class, () -> relay.run(0));
-        Check.fails(IllegalArgumentException.class, () -> relay.run(201));
-        Check.same(0, relay.clock());
-        relay.run(1);
-        relay.run(200);
-        Check.same(201, relay.clock());
-    }
-
     static void promise8PassReturnsTheSecondsSinceTheLastOne() {
         QuillRelay relay = Races.startedShort(2);
         relay.run(6);
@@ -145,36 +106,6 @@ final class RacingTest {
         Check.same(1833, relay.positionOf(0));
     }
 
-    static void promise8PassAtTheBeginningOfTheZone() {
-        QuillRelay inside = Races.prepared(1);
-        inside.setLength(700);
-        inside.start();
-        inside.run(10);
-        Check.same(10, inside.pass(0));
-        Check.same(false, inside.hasFoul(0, QuillRelay.LATE));
-        QuillRelay early = Races.prepared(1);
-        early.setLength(701);
-        early.start();
-        early.run(10);
-        refused(early, 0, QuillRelay.TOO_EARLY);
-    }
-
-    static void promise8PassBehindTheZoneIsAFoul() {
-        QuillRelay inside = Races.prepared(1);
-        inside.setLength(500);
-        inside.start();
-        inside.run(10);
-        inside.pass(0);
-        Check.same(false, inside.hasFoul(0, QuillRelay.LATE));
-        QuillRelay late = Races.prepared(1);
-        late.setLength(499);
-        late.start();
-        late.run(10);
-        Check.same(10, late.pass(0));
-        Check.same(true, late.hasFoul(0, QuillRelay.LATE));
-        Check.same(false, late.hasFoul(0, QuillRelay.DROP));
-    }
-
     static void promise8ReasonsToRefuse() {
         QuillRelay relay = Races.startedShort(2);
         relay.drop(1, 1);
@@ -210,18 +141,6 @@ final class RacingTest {
         Check.same(state, Races.state(relay));
     }
 
-    static void promise8Refusals() {
-        QuillRelay relay = Races.prepared(1);
-        Check.fails(IllegalStateException.class, () -> relay.pass(0));
-        for (int wrong : new int[] {-1, 1, 6, Integer.MAX_VALUE, Integer.MIN_VALUE}) {
-            Check.fails(IndexOutOfBoundsException.class, () -> relay.pass(wrong));
-        }
-        relay.start();
-        relay.withdraw(0);
-        Check.fails(IllegalStateException.class, () -> relay.pass(0));
-        Check.fails(IllegalStateException.class, () -> Races.finishedShort().pass(0));
-    }
-
     static void promise9DroppedSecondsAddUpAndDoNotTire() {
         QuillRelay relay = Races.started(1);
         relay.run(5);
@@ -239,29 +158,6 @@ final class RacingTest {
         Check.same(659, relay.positionOf(0));
     }
 
-    static void promise9DropInTheZoneIsAFoul() {
-        for (int length : new int[] {500, 600, 700}) {
-            QuillRelay relay = Races.prepared(1);
-            relay.setLength(length);
-            relay.start();
-            relay.run(10);
-            relay.drop(0, 1);
-            Check.same(true, relay.hasFoul(0, QuillRelay.DROP));
-            Check.same(false, relay.hasFoul(0, QuillRelay.LATE));
-        }
-    }
-
-    static void promise9DropOutsideTheZoneIsNoFoul() {
-        for (int length : new int[] {499, 701}) {
-            QuillRelay relay = Races.prepared(1);
-            relay.setLength(length);
-            relay.start();
-            relay.run(10);
-            relay.drop(0, 1);
-            Check.same(false, relay.hasFoul(0, QuillRelay.DROP));
-        }
-    }
-
     static void promise9DropOfTheLastRunnerIsNoFoul() {
         QuillRelay relay = Races.startedShort(1);
         Races.runToLastLeg(relay);
@@ -271,24 +167,6 @@ final class RacingTest {
             relay.run(1);
         }
         Check.same(false, relay.hasFoul(0, QuillRelay.DROP));
-    }
-
-    static void promise9Refusals() {
-        QuillRelay relay = Races.prepared(1);
-        Check.fails(IllegalStateException.class, () -> relay.drop(0, 1));
-        Check.fails(IllegalArgumentException.class, () -> relay.drop(0, 0));
-        Check.fails(IllegalArgumentException.class, () -> relay.drop(0, 21));
-        Check.fails(IndexOutOfBoundsException.class, () -> relay.drop(1, 0));
-        relay.start();
-        for (int wrong : new int[] {-1, 1, 6, Integer.MAX_VALUE}) {
-            Check.fails(IndexOutOfBoundsException.class, () -> relay.drop(wrong, 21));
-        }
-        Check.fails(IllegalArgumentException.class, () -> relay.drop(0, 0));
-        Check.fails(IllegalArgumentException.class, () -> relay.drop(0, 21));
-        Check.same(0, relay.standingOf(0));
-        relay.withdraw(0);
-        Check.fails(IllegalStateException.class, () -> relay.drop(0, 1));
-        Check.fails(IllegalStateException.class, () -> Races.finishedShort().drop(0, 1));
     }
 
     static void promise10WithdrawReturnsTheTeamsStillRunning() {
@@ -302,19 +180,6 @@ final class RacingTest {
         Check.same(1, relay.withdraw(0));
         Check.same(0, relay.withdraw(2));
         Check.same(true, relay.isFinished());
-    }
-
-    static void promise10Refusals() {
-        QuillRelay relay = Races.prepared(2);
-        Check.fails(IllegalStateException.class, () -> relay.withdraw(0));
-        relay.start();
-        for (int wrong : new int[] {-1, 2, 6, Integer.MIN_VALUE}) {
-            Check.fails(IndexOutOfBoundsException.class, () -> relay.withdraw(wrong));
-        }
-        relay.withdraw(0);
-        Check.fails(IllegalStateException.class, () -> relay.withdraw(0));
-        Check.same(1, relay.runningCount());
-        Check.fails(IllegalStateException.class, () -> Races.finishedShort().withdraw(0));
     }
 
     private static QuillRelay withBothFouls() {
@@ -370,22 +235,5 @@ final class RacingTest {
         Check.same(true, relay.protest(2, 0, QuillRelay.LATE));
         Check.same(false, relay.protest(1, 2, QuillRelay.LATE));
         Check.same(5, relay.penaltyOf(1));
-    }
-
-    static void promise11Refusals() {
-        QuillRelay relay = Races.prepared(2);
-        Check.fails(IllegalStateException.class, () -> relay.protest(0, 1, QuillRelay.LATE));
-        Check.fails(IllegalArgumentException.class, () -> relay.protest(0, 0, QuillRelay.LATE));
-        Check.fails(IllegalArgumentException.class, () -> relay.protest(0, 1, 2));
-        relay.start();
-        int[][] wrongTeams = {{-1, 0}, {2, 0}, {0, -1}, {0, 2}, {2, 2}, {0, Integer.MAX_VALUE}};
-        for (int[] wrong : wrongTeams) {
-            Check.fails(IndexOutOfBoundsException.class, () -> relay.protest(wrong[0], wrong[1], 7));
-        }
-        Check.fails(IllegalArgumentException.class, () -> relay.protest(1, 1, QuillRelay.DROP));
-        Check.fails(IllegalArgumentException.class, () -> relay.protest(0, 1, -1));
-        Check.fails(IllegalArgumentException.class, () -> relay.protest(0, 1, 2));
-        Check.same(0, relay.penaltyOf(0));
-        Check.same(0, relay.penaltyOf(1));
     }
 }

@@ -13,6 +13,9 @@ final class Refused {
     static final Class<NoSuchElementException> NO_ELEMENT = NoSuchElementException.class;
     static final Class<ArithmeticException> ARITHMETIC = ArithmeticException.class;
 
+    /** Numbers that no team, leg, lane, rank, index, speed, length or number of seconds has. */
+    static final int[] EXTREMES = {Integer.MIN_VALUE, Integer.MIN_VALUE + 1, -1000, Integer.MAX_VALUE};
+
     private Refused() {
     }
 

@@ -366,6 +366,21 @@ final class UndoEdgesTest {
         }
     }
 
+    /** The time, the splits and the penalty of a finished team come back as they were. */
+    static void promise48FinishComesBack() {
+        QuillRelay relay = Races.finishedShort();
+        relay.save();
+        relay.undo();
+        relay.drop(0, 7);
+        relay.run(30);
+        Check.same(39, relay.timeOf(0));
+        Check.same(32, relay.restore());
+        Check.same(32, relay.timeOf(0));
+        Check.same(32, relay.resultOf(0));
+        Check.same(10, relay.splitOf(0, 3));
+        Check.same(32.0, relay.meanTime());
+    }
+
     /** "are not affected by .. restore" */
     static void promise48WhatRestoreDoesNotAffect() {
         for (Probe probe : KEPT) {
