@@ -165,6 +165,15 @@ final class RacingEdgesTest {
         Check.same(659, relay.positionOf(0));
     }
 
+    /** "An object is used for at most 512 calls": none of the sums comes to a limit of its own by then. */
+    static void promise7ClockOfTheLongestUse() {
+        QuillRelay relay = Races.started(1);
+        for (int call = 0; call < 509; call++) {
+            relay.run(200);
+        }
+        Check.same(101800, relay.clock());
+    }
+
     // ---- pass
 
     static void promise8TeamNumbers() {
@@ -381,6 +390,13 @@ final class RacingEdgesTest {
         Check.same(2, relay.drop(0, 2));
     }
 
+    static void promise9SecondsOfTheLongestUse() {
+        QuillRelay relay = Races.started(1);
+        for (int call = 1; call <= 509; call++) {
+            Check.same(20 * call, relay.drop(0, 20));
+        }
+    }
+
     /** "A team that drops its quill in the zone of its leg commits a foul as well (DROP)." */
     static void promise9ZoneOfEachLeg() {
         for (int leg = 0; leg < 3; leg++) {
@@ -575,6 +591,15 @@ final class RacingEdgesTest {
         relay.drop(0, 1);
         relay.protest(1, 0, QuillRelay.DROP);
         Check.same(20, relay.penaltyOf(0));
+        Check.same(0, relay.penaltyOf(1));
+    }
+
+    static void promise11PenaltyOfTheLongestUse() {
+        QuillRelay relay = Races.started(2);
+        for (int call = 1; call <= 508; call++) {
+            relay.protest(0, 1, QuillRelay.LATE);
+        }
+        Check.same(2540, relay.penaltyOf(0));
         Check.same(0, relay.penaltyOf(1));
     }
 }
