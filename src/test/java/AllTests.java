@@ -11,7 +11,7 @@ public final class AllTests {
         FaceTest.class, PreparingTest.class, RacingTest.class, RaceQuestionsTest.class, TeamQuestionsTest.class,
         PredictionsTest.class, BannerTest.class, ProgramTest.class, UndoTest.class, ModelTest.class,
         PreparingEdgesTest.class, RacingEdgesTest.class, QuestionEdgesTest.class, PredictionEdgesTest.class,
-        BannerEdgesTest.class, ProgramEdgesTest.class, UndoEdgesTest.class
+        BannerEdgesTest.class, ProgramEdgesTest.class, UndoEdgesTest.class, ReadmeTest.class
     };
     private static final int PROMISES = 48;
     private static final Pattern NAME = Pattern.compile("promise(\\d+)[A-Z].*");
